@@ -183,6 +183,9 @@ public final class ModelTest {
         for (int i : NO_AGENTS) {
             check.outside("11: arrowCount(" + i + ")", x, () -> x.arrowCount(i));
         }
+        KnowledgeModel full = Check.model(new int[24]);
+        full.gather(3, (1 << 24) - 1);
+        check.due("11: arrowCount(3) of 24 worlds", full.arrowCount(3), 576);
     }
 
     private static int shapeOf(int worlds, int... pairs) {
@@ -196,6 +199,10 @@ public final class ModelTest {
         check.due("12: no arrows", shapeOf(2), 6);
         check.due("12: an arrow to itself", shapeOf(1, 0, 0), 7);
         check.due("12: a world without arrow to itself", shapeOf(2, 0, 0), 6);
+        check.due("12: the first without one", shapeOf(2, 1, 1), 6);
+        check.due("12: one direction, to the first", shapeOf(2, 1, 0), 4);
+        check.due("12: one direction from the last of 24", shapeOf(24, 23, 0), 4);
+        check.due("12: a chain to the last of 24", shapeOf(24, 0, 22, 22, 23), 0);
         check.due("12: one direction", shapeOf(2, 0, 1), 4);
         check.due("12: both directions, not to themselves", shapeOf(2, 0, 1, 1, 0), 2);
         check.due("12: a chain", shapeOf(3, 0, 1, 1, 2), 0);
@@ -203,6 +210,9 @@ public final class ModelTest {
         check.due("12: reflexive, one direction", shapeOf(2, 0, 0, 1, 1, 0, 1), 5);
         check.due("12: reflexive chain", shapeOf(3, 0, 0, 1, 1, 2, 2, 0, 1, 1, 2), 1);
         check.due("12: reflexive symmetric chain", shapeOf(3, 0, 0, 1, 1, 2, 2, 0, 1, 1, 2, 1, 0, 2, 1), 3);
+        KnowledgeModel full = Check.model(new int[24]);
+        full.gather(0, (1 << 24) - 1);
+        check.due("12: all arrows of 24 worlds", full.shape(0), 7);
         KnowledgeModel x = Check.model(0, 0);
         x.gather(1, 3);
         check.due("12: another agent's arrows", x.shape(0), 6);

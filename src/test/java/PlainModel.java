@@ -178,7 +178,6 @@ final class PlainModel {
 
     public int shape(int agent) {
         outside(agent < 0 || agent > 3);
-        int sum = 7;
         boolean self = true;
         boolean back = true;
         boolean on = true;
@@ -189,7 +188,7 @@ final class PlainModel {
                 on &= u.sees.get(agent).containsAll(v.sees.get(agent));
             }
         }
-        return sum - (self ? 0 : 1) - (back ? 0 : 2) - (on ? 0 : 4);
+        return (self ? 1 : 0) + (back ? 2 : 0) + (on ? 4 : 0);
     }
 
     // ---- formulas

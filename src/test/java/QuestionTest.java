@@ -11,6 +11,7 @@ public final class QuestionTest {
         whereAfter();
         whereAfterAfter();
         whereOfManyParts();
+        whereOfAllWorlds();
         whereWithoutWorlds();
         holds();
         share();
@@ -76,6 +77,10 @@ public final class QuestionTest {
         check.due("22: where(after q: shared p)", x.where(x.after(1, x.ofGroup(false, 1, 0))), 7);
         check.due("22: where(after q: not p)", x.where(x.after(1, x.not(0))), 6);
         check.due("22: the model stays", Check.rows(x, 0), "2 4 0");
+        int knows = x.knows(0, 0);
+        int after = x.after(0, knows);
+        check.due("22: where(after p: 0 knows p)", x.where(after), 7);
+        check.due("22: the same part in both models", x.where(x.both(after, knows)), 5);
         KnowledgeModel y = Check.model(1, 0);
         y.gather(0, 3);
         int unknown = y.both(y.atom(0), y.not(y.knows(0, 0)));
@@ -117,6 +122,25 @@ public final class QuestionTest {
             f = x.both(f, f);
         }
         check.due("22: where() of 39 BOTHs", x.where(f), 1);
+    }
+
+    private static void whereOfAllWorlds() {
+        KnowledgeModel x = Check.model(new int[24]);
+        x.gather(0, (1 << 24) - 1);
+        x.gather(1, (1 << 24) - 1);
+        x.setAtoms(23, 32);
+        int p = x.atom(5);
+        int notP = x.not(p);
+        check.due("22: where(p) of 24 worlds", x.where(p), 1 << 23);
+        check.due("22: where(not p)", x.where(notP), (1 << 23) - 1);
+        check.due("22: where(0 knows not p)", x.where(x.knows(0, notP)), 0);
+        check.due("22: where(shared not p)", x.where(x.ofGroup(false, 3, notP)), 0);
+        check.due("22: where(common not p)", x.where(x.ofGroup(true, 3, notP)), 0);
+        check.due("22: where(after not p: common not p)", x.where(x.after(notP, 4)), (1 << 24) - 1);
+        check.due("25: decided(0)", x.decided(0), 31);
+        check.due("26: reached(1, 23)", x.reached(1, 23), (1 << 24) - 1);
+        check.due("29: tell(1, p)", x.tell(1, p), 46);
+        check.due("32: prune()", x.prune(), 0);
     }
 
     private static void whereWithoutWorlds() {
@@ -224,6 +248,8 @@ public final class QuestionTest {
         x.setAtoms(1, 1);
         x.connect(2, 2, 3, true);
         check.due("27: one that sees more", x.areAlike(0, 2), false);
+        x.connect(2, 2, 3, false);
+        check.due("27: alike again", x.areAlike(0, 2), true);
         for (int w : new int[] {-1, 5, 24, 32, Integer.MIN_VALUE, Integer.MAX_VALUE}) {
             check.outside("27: areAlike(0, " + w + ")", x, () -> x.areAlike(0, w));
             check.outside("27: areAlike(" + w + ", 0)", x, () -> x.areAlike(w, 0));
@@ -241,6 +267,15 @@ public final class QuestionTest {
             x.connect((i + 1) % 4, 1, 2, true);
             check.due("27: arrows of two agents", x.areAlike(0, 1), false);
         }
+        for (int seenToo = 2; seenToo < 4; seenToo++) {
+            KnowledgeModel x = Check.model(0, 0, 1, 2);
+            x.gather(0, 15);
+            x.connect(0, 0, seenToo, false);
+            check.due("27: one sees a class more", x.areAlike(0, 1), false);
+        }
+        KnowledgeModel full = Check.model(new int[24]);
+        full.gather(1, (1 << 24) - 1);
+        check.due("27: the first and the last of 24", full.areAlike(0, 23), true);
         KnowledgeModel chains = Check.model(new int[24]);
         for (int w = 0; w < 23; w++) {
             if (w != 11) {

@@ -6,7 +6,7 @@ import java.util.Random;
 
 /** All promises: long runs of drawn calls (the same each time), held against PlainModel. */
 public final class RandomRunsTest {
-    private static final int RUNS = 1500;
+    private static final int RUNS = 400;
     private static final int CALLS = 250;
 
     /**
@@ -75,7 +75,7 @@ public final class RandomRunsTest {
                 case 'i' -> result.add(number(0, 4, 4, wrongShare));
                 case 'g' -> result.add(number(1, 16, 16, wrongShare));
                 case 'w' -> result.add(number(0, worlds, worlds, wrongShare));
-                case 'W' -> result.add(number(0, 1 << worlds, 1 << worlds, wrongShare) & number(-1, 0, 0, 2));
+                case 'W' -> result.add(number(0, 1 << worlds, 1 << worlds, wrongShare) & thinning());
                 case 'p' -> result.add(number(0, 6, 6, wrongShare));
                 case 'f' -> result.add(number(0, formulas, formulas, wrongShare));
                 case 'b' -> result.add(random.nextInt(4) != 0);
@@ -83,6 +83,11 @@ public final class RandomRunsTest {
             }
         }
         return result.toArray();
+    }
+
+    /** Half of the sets of worlds stay as drawn, the others lose some of their members. */
+    private static int thinning() {
+        return random.nextBoolean() ? -1 : random.nextInt();
     }
 
     /** A number from least to below the bound, or now and then one beyond the limit. */
