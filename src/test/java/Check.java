@@ -1,3 +1,6 @@
+import java.lang.reflect.InvocationTargetException;
+import java.lang.reflect.Method;
+
 /** Compares answers with the ones that are due, and counts those that are not. */
 final class Check {
     /** A call that may throw. */
@@ -41,6 +44,21 @@ final class Check {
         } catch (RuntimeException e) {
             return "throws " + e.getClass().getName();
         }
+    }
+
+    /** What the named call on an object answers or throws. */
+    static Object outcome(Object on, String name, Object... arguments) throws ReflectiveOperationException {
+        for (Method m : on.getClass().getMethods()) {
+            if (m.getName().equals(name)) {
+                m.setAccessible(true);
+                try {
+                    return m.invoke(on, arguments);
+                } catch (InvocationTargetException e) {
+                    return "throws " + e.getCause().getClass().getName();
+                }
+            }
+        }
+        throw new NoSuchMethodException(name);
     }
 
     /** Ends the program, with exit code 1 if an answer was wrong. */

@@ -1,5 +1,3 @@
-import java.lang.reflect.InvocationTargetException;
-import java.lang.reflect.Method;
 import java.util.ArrayList;
 import java.util.List;
 import java.util.Random;
@@ -43,8 +41,8 @@ public final class RandomRunsTest {
             String[] method = draw(k < growing).split(" ");
             Object[] arguments = arguments(method[3], plain, wrongShare, atomBound);
             String told = "run " + number + ", call " + k + ": " + method[0] + List.of(arguments);
-            Object want = outcome(plain, method[0], arguments);
-            check.due(told, outcome(x, method[0], arguments), want);
+            Object want = Check.outcome(plain, method[0], arguments);
+            check.due(told, Check.outcome(x, method[0], arguments), want);
             check.due(told + ", then digest()", x.digest(), plain.digest());
         }
     }
@@ -98,19 +96,5 @@ public final class RandomRunsTest {
         }
         // New formulas are built on late ones more often than on early ones.
         return least + Math.max(random.nextInt(bound - least), random.nextInt(bound - least));
-    }
-
-    private static Object outcome(Object on, String name, Object[] arguments) throws ReflectiveOperationException {
-        for (Method m : on.getClass().getMethods()) {
-            if (m.getName().equals(name)) {
-                m.setAccessible(true);
-                try {
-                    return m.invoke(on, arguments);
-                } catch (InvocationTargetException e) {
-                    return "throws " + e.getCause().getClass().getName();
-                }
-            }
-        }
-        throw new NoSuchMethodException(name);
     }
 }
