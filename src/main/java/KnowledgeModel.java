@@ -362,7 +362,8 @@ public final class KnowledgeModel {
         }
 
         int all() {
-            return single(count) - 1;
+            // Written out: by single() the calls of a question would go eight deep, just as many as are allowed.
+            return (1 << count) - 1;
         }
 
         int append(int atoms) {
